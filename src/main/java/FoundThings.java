@@ -34,9 +34,16 @@ public final class FoundThings {
     private static final int OPEN = 2;
     private static final int LEAST_FIND_WORTH = 60;
 
-    private static final String WHO_WORDS = "finder owner ground halves crown";
-    private static final String NAME_WORDS = "way place worth walled marks rare own age cried claims";
+    /** All words of texts: those of WHO, then the NAMES, then the others. */
+    private static final String ALL_WORDS =
+            "finder owner ground halves crown way place worth walled marks rare own age cried claims cry if or and not";
+    private static final int FIRST_NAME = WHOS;
     private static final int NAMES = 10;
+    private static final int WORD_CRY = FIRST_NAME + NAMES;
+    private static final int WORD_IF = WORD_CRY + 1;
+    private static final int WORD_OR = WORD_CRY + 2;
+    private static final int WORD_AND = WORD_CRY + 3;
+    private static final int WORD_NOT = WORD_CRY + 4;
     private static final int WAY_BIT = 1;
     private static final int WORTH_BIT = 4;
     /** The names that hang on the place: place, walled, own. */
@@ -628,22 +635,12 @@ public final class FoundThings {
         return verdict.partsFrom(otherVerdict);
     }
 
+    /** What neither law looks at need not be tried but in its least form. */
     public int least(int law, int other, int what) throws IllegalArgumentException {
         Law one = lawOf(law);
         Law two = lawOf(other);
         testRange(what, 0, 2);
         fillWorldSet();
-        if (!seekLeast(one, two)) {
-            return NONE;
-        }
-        if (what == 0) {
-            return probe.worth;
-        }
-        return what == 1 ? probe.way : probe.place;
-    }
-
-    /** What neither law looks at need not be tried but in its least form. */
-    private boolean seekLeast(Law one, Law two) {
         int uses = one.uses | two.uses;
         int lastWorth = (uses & WORTH_BIT) != 0 ? LEAST_FIND_WORTH : 1;
         int lastWay = (uses & WAY_BIT) != 0 ? WAYS - 1 : 0;
@@ -653,12 +650,12 @@ public final class FoundThings {
                 for (int place = 0; place <= lastPlace; place++) {
                     probe.begin(way, place, worth, told.today);
                     if (partAt(probe, NONE, one, two)) {
-                        return true;
+                        return what == 0 ? worth : what == 1 ? way : place;
                     }
                 }
             }
         }
-        return false;
+        return NONE;
     }
 
     // ---- images
@@ -766,8 +763,15 @@ public final class FoundThings {
         private final byte[] tape = new byte[MOST_BYTES];
         private int tapeBytes;
         private int length;
-        private int at;
-        private int end;
+
+        /** The text in pieces, each with the place of its first byte; the last one is its end. */
+        private final int[] kinds = new int[MOST_BYTES + 1];
+        private final int[] values = new int[MOST_BYTES + 1];
+        private final int[] places = new int[MOST_BYTES + 1];
+        private int pieces;
+
+        /** The piece that is to be read next. */
+        private int next;
         private int kind;
         private int value;
         private int open;
@@ -811,41 +815,42 @@ public final class FoundThings {
 
         private void start(int n, Law into) {
             length = Math.min(n, MOST_BYTES);
-            end = 0;
+            cut();
             open = 0;
             law = into;
             law.clear();
-            next();
+            next = NONE;
+            goOn();
         }
 
         /** The fault stands at what was to be read next. */
         private boolean refuse(int number) {
             faultNumber = number;
-            faultPlace = at;
+            faultPlace = places[next];
             return false;
         }
 
         private boolean readRule() {
-            int who = wordIn(WHO_WORDS);
-            if (who == NONE) {
+            int who = value;
+            if (kind != WORD || who < 0 || who >= WHOS) {
                 return refuse(1);
             }
             if (law.rules >= MOST_RULES) {
                 return refuse(3);
             }
-            next();
+            goOn();
             int days = 0;
-            if (isWord("cry")) {
-                next();
-                if (!isNumber()) {
+            if (isWord(WORD_CRY)) {
+                goOn();
+                if (!needNumber()) {
                     return false;
                 }
                 days = value;
-                next();
+                goOn();
             }
             law.addRule(who, days);
-            if (isWord("if")) {
-                next();
+            if (isWord(WORD_IF)) {
+                goOn();
                 if (!readOr()) {
                     return false;
                 }
@@ -857,8 +862,8 @@ public final class FoundThings {
             if (!readAnd()) {
                 return false;
             }
-            for (int i = 0; i < MOST_BYTES && isWord("or"); i++) {
-                next();
+            for (int i = 0; i < MOST_BYTES && isWord(WORD_OR); i++) {
+                goOn();
                 if (!readAnd()) {
                     return false;
                 }
@@ -871,8 +876,8 @@ public final class FoundThings {
             if (!readBasic()) {
                 return false;
             }
-            for (int i = 0; i < MOST_BYTES && isWord("and"); i++) {
-                next();
+            for (int i = 0; i < MOST_BYTES && isWord(WORD_AND); i++) {
+                goOn();
                 if (!readBasic()) {
                     return false;
                 }
@@ -882,7 +887,7 @@ public final class FoundThings {
         }
 
         private boolean readBasic() {
-            if (isWord("not")) {
+            if (isWord(WORD_NOT)) {
                 return readNot();
             }
             if (isSign('[')) {
@@ -890,7 +895,7 @@ public final class FoundThings {
             }
             if (kind == UNKNOWN) {
                 law.addCode(OP_UNKNOWN, value);
-                next();
+                goOn();
                 return true;
             }
             return readComparison();
@@ -900,7 +905,7 @@ public final class FoundThings {
             if (!mayOpen()) {
                 return false;
             }
-            next();
+            goOn();
             if (!readBasic()) {
                 return false;
             }
@@ -913,7 +918,7 @@ public final class FoundThings {
             if (!mayOpen()) {
                 return false;
             }
-            next();
+            goOn();
             if (!readOr() || !readSign(']')) {
                 return false;
             }
@@ -929,7 +934,7 @@ public final class FoundThings {
             if (operation == OP_SAME && !isSign('=')) {
                 return refuse(1);
             }
-            next();
+            goOn();
             if (!readSum()) {
                 return false;
             }
@@ -943,7 +948,7 @@ public final class FoundThings {
             }
             for (int i = 0; i < MOST_BYTES && (isSign('+') || isSign('-')); i++) {
                 int operation = isSign('+') ? OP_PLUS : OP_MINUS;
-                next();
+                goOn();
                 if (!readTerm()) {
                     return false;
                 }
@@ -956,16 +961,16 @@ public final class FoundThings {
             if (isSign('(')) {
                 return readParenthesis();
             }
-            int name = wordIn(NAME_WORDS);
-            if (name != NONE) {
+            int name = value - FIRST_NAME;
+            if (kind == WORD && name >= 0 && name < NAMES) {
                 law.addCode(OP_NAME, name);
                 law.addUse(name);
-            } else if (isNumber()) {
+            } else if (needNumber()) {
                 law.addCode(OP_NUMBER, value);
             } else {
                 return false;
             }
-            next();
+            goOn();
             return true;
         }
 
@@ -973,7 +978,7 @@ public final class FoundThings {
             if (!mayOpen()) {
                 return false;
             }
-            next();
+            goOn();
             if (!readSum() || !readSign(')')) {
                 return false;
             }
@@ -993,11 +998,11 @@ public final class FoundThings {
             if (!isSign(sign)) {
                 return refuse(1);
             }
-            next();
+            goOn();
             return true;
         }
 
-        private boolean isNumber() {
+        private boolean needNumber() {
             if (kind != DIGITS) {
                 return refuse(1);
             }
@@ -1008,20 +1013,67 @@ public final class FoundThings {
             return kind == SIGN && value == sign;
         }
 
-        private boolean isWord(String word) {
-            return wordIn(word) == 0;
+        private boolean isWord(int word) {
+            return kind == WORD && value == word;
         }
 
-        /** Which of a list's words, parted by blanks, is to be read next; NONE. */
-        private int wordIn(String list) {
-            if (kind != WORD) {
-                return NONE;
+        /** Behind the end there is nothing but the end. */
+        private void goOn() {
+            next = Math.max(0, Math.min(next + 1, Math.min(pieces - 1, MOST_BYTES)));
+            kind = kinds[next];
+            value = values[next];
+        }
+
+        /** Cuts the text into pieces; each takes a byte at least, and blanks belong to none. */
+        private void cut() {
+            pieces = 0;
+            int at = 0;
+            for (int i = 0; i < MOST_BYTES && at < length; i++) {
+                int first = byteAt(at);
+                if (first == ' ') {
+                    at++;
+                } else if (isLetter(first)) {
+                    at = cutWord(at);
+                } else if (isDigit(first)) {
+                    at = cutDigits(at);
+                } else {
+                    addPiece(SIGN, first, at);
+                    at++;
+                }
             }
+            addPiece(END, 0, length);
+        }
+
+        private void addPiece(int newKind, int newValue, int place) {
+            if (pieces <= MOST_BYTES) {
+                kinds[pieces] = newKind;
+                values[pieces] = newValue;
+                places[pieces] = place;
+                pieces++;
+            }
+        }
+
+        private int cutWord(int at) {
+            int end = at;
+            for (int i = 0; i < MOST_BYTES && isLetter(byteAt(end)); i++) {
+                end++;
+            }
+            int behind = byteAt(end + 1);
+            if (end - at == 1 && byteAt(at) == 'u' && isDigit(byteAt(end)) && !isDigit(behind) && !isLetter(behind)) {
+                addPiece(UNKNOWN, byteAt(end) - '0', at);
+                return end + 1;
+            }
+            addPiece(WORD, wordNumber(at, end), at);
+            return end;
+        }
+
+        /** The place in the list of all words; NONE for what is none of them. */
+        private int wordNumber(int at, int end) {
             int number = 0;
             int same = 0;
             int letters = 0;
-            for (int i = 0; i <= list.length(); i++) {
-                if (i == list.length() || list.charAt(i) == ' ') {
+            for (int i = 0; i <= ALL_WORDS.length(); i++) {
+                if (i == ALL_WORDS.length() || ALL_WORDS.charAt(i) == ' ') {
                     if (same == letters && letters == end - at) {
                         return number;
                     }
@@ -1029,54 +1081,23 @@ public final class FoundThings {
                     same = 0;
                     letters = 0;
                 } else {
-                    same += byteAt(at + letters) == list.charAt(i) ? 1 : 0;
+                    same += byteAt(at + letters) == ALL_WORDS.charAt(i) ? 1 : 0;
                     letters++;
                 }
             }
             return NONE;
         }
 
-        /** Goes to what is to be read next: from at up to end, blanks ahead of it left out. */
-        private void next() {
-            at = end;
-            for (int i = 0; i < MOST_BYTES && byteAt(at) == ' '; i++) {
-                at++;
-            }
-            end = at;
-            if (at >= length) {
-                kind = END;
-            } else if (isLetter(byteAt(at))) {
-                takeWord();
-            } else if (isDigit(byteAt(at))) {
-                takeDigits();
-            } else {
-                kind = SIGN;
-                value = byteAt(at);
-                end++;
-            }
-        }
-
-        private void takeWord() {
-            kind = WORD;
-            for (int i = 0; i < MOST_BYTES && isLetter(byteAt(end)); i++) {
-                end++;
-            }
-            if (end - at == 1 && byteAt(at) == 'u' && isDigit(byteAt(end))
-                    && !isDigit(byteAt(end + 1)) && !isLetter(byteAt(end + 1))) {
-                kind = UNKNOWN;
-                value = byteAt(end) - '0';
-                end++;
-            }
-        }
-
         /** A number too great stays just so: more digits must not wrap it into what is fine. */
-        private void takeDigits() {
-            kind = DIGITS;
-            value = 0;
+        private int cutDigits(int at) {
+            int end = at;
+            int number = 0;
             for (int i = 0; i < MOST_BYTES && isDigit(byteAt(end)); i++) {
-                value = Math.min(value * 10 + byteAt(end) - '0', MOST_NUMBER + 1);
+                number = Math.min(number * 10 + byteAt(end) - '0', MOST_NUMBER + 1);
                 end++;
             }
+            addPiece(DIGITS, number, at);
+            return end;
         }
 
         /** Behind the end there is what is no letter, no digit, no blank. */
@@ -1235,13 +1256,13 @@ public final class FoundThings {
                     join(operation == OP_AND);
                     break;
                 default:
-                    reckon(operation);
+                    reckon(operation, popNumber());
                     break;
             }
         }
 
-        private void reckon(int operation) {
-            int right = popNumber();
+        /** The right one is taken first, since it was put there last. */
+        private void reckon(int operation, int right) {
             int left = popNumber();
             switch (operation) {
                 case OP_PLUS:
@@ -1359,7 +1380,7 @@ public final class FoundThings {
         private void seekTelling() {
             tellings = 0;
             for (int unknown = 0; unknown < UNKNOWNS; unknown++) {
-                if ((open >> unknown & 1) == 1 && differs(1 << unknown, false)) {
+                if (tellings < UNKNOWNS && (open >> unknown & 1) == 1 && differs(1 << unknown, false)) {
                     telling[tellings] = unknown;
                     tellings++;
                 }
@@ -1525,7 +1546,7 @@ public final class FoundThings {
         }
 
         private int questionsIn(int cube) {
-            return Math.max(0, valueAt(cube) - WHOS);
+            return cube >= 0 && cube < cubes.length ? Math.max(0, cubes[cube] - WHOS) : 0;
         }
 
         private int valueAt(int cube) {
