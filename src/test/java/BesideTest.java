@@ -73,6 +73,9 @@ public final class BesideTest {
         least(land(), "crown if worth>60;", -1, -1, -1);
         least(land(), "crown if way=5;", 1, 5, 0);
         least(land(), "crown if place=3;", 1, 0, 3);
+        least(land(), "crown if way>5;", -1, -1, -1);
+        least(land(), "crown if place>3;", -1, -1, -1);
+        least(land(), "crown if worth<1;", -1, -1, -1);
         least(land(), "crown if walled=1;", 1, 0, 3);
         least(land(), "crown if own=75;", 1, 0, 2);
         least(land(), "crown if own>0 and own<75;", 1, 0, 1);

@@ -7,6 +7,7 @@ public final class ClaimsTest {
         claims();
         best();
         added();
+        allHave();
         Check.end();
     }
 
@@ -68,6 +69,21 @@ public final class ClaimsTest {
         x.claim(0, 0, 0b110);
         Check.due("still disputed", -2, x.best(0));
         Check.due("another find", -1, x.best(1));
+    }
+
+    private static void allHave() {
+        FoundThings x = new FoundThings();
+        x.find(0, 0, 1, 6, 0);
+        for (int i = 0; i < 16; i++) {
+            x.person(0, 4095);
+        }
+        Check.due("the least mark, though all have it", 1, x.added(0, 0));
+        x.claim(0, 15, 6);
+        Check.due("all have, but one claims", 15, x.best(0));
+        Check.due("have", 16, x.claimed(0, 4));
+        Check.due("rare", 16, x.name(0, 5));
+        x.claim(0, 14, 2);
+        Check.due("all have, and two claim", -2, x.best(0));
     }
 
     private static void added() {

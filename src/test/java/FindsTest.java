@@ -69,6 +69,8 @@ public final class FindsTest {
         x.passes(1, 2, 0);
         x.passes(2, 2, 0);
         Check.due("own without", 0, x.name(0, 6));
+        x.passes(0, 2, 1);
+        Check.due("own of one", 100, x.name(0, 6));
     }
 
     private static void holds() {

@@ -12,6 +12,8 @@ public final class TextsTest {
         conditions();
         conditionFaults();
         limits();
+        firstBytes();
+        manyPieces();
         Check.end();
     }
 
@@ -99,6 +101,12 @@ public final class TextsTest {
         lawFault("finder if u1a;", 1, 10);
         lawFault("finder if u1and u2;", 1, 10);
         lawFault("finder if u1A;", 1, 12);
+        lawFault("finder if u1z;", 1, 10);
+        lawFault("finder if u1{;", 1, 12);
+        lawFault("finder if u1`;", 1, 12);
+        lawFault("finderz;", 1, 0);
+        lawFault("finder cry 1/;", 1, 12);
+        lawFault("finder cry 1:;", 1, 12);
         lawFault("finder if au1;", 1, 10);
         lawFault("finder if notu1;", 1, 10);
         lawFault("finder if u1 u2;", 1, 13);
@@ -182,6 +190,38 @@ public final class TextsTest {
         Check.due("all worlds", 1024, x.worlds());
         Check.due("a good one", 1, Check.holds(x, "u0;"));
         Check.due("no fault now", -1, x.fault());
+    }
+
+    /** What stands behind the first n bytes is not read. */
+    private static void firstBytes() {
+        String[] texts = {"finderx", "finder;x", "u12", "u1x", "1=12;", "finder cry 99999;"};
+        int[] lengths = {6, 7, 2, 2, 3, 15};
+        int[] places = {6, -1, 2, 2, 3, 15};
+        for (int i = 0; i < texts.length; i++) {
+            FoundThings x = new FoundThings();
+            Check.feed(x, texts[i]);
+            boolean law = texts[i].startsWith("finder");
+            int due = places[i] < 0 ? 0 : -9;
+            Check.due("part of " + texts[i], due, law ? x.law(lengths[i]) : x.holds(lengths[i]));
+            Check.due("place in part of " + texts[i], places[i], x.fault());
+            Check.due("the tape is empty", 0, x.count(9));
+        }
+    }
+
+    private static void manyPieces() {
+        FoundThings x = new FoundThings();
+        String sum = "1" + "+1".repeat(198);
+        Check.due("400 pieces", 1, Check.holds(x, sum + "=1;"));
+        Check.due("it does not hold", 0, x.worlds());
+        Check.due("400 pieces without an end", -9, Check.holds(x, sum + "=1+"));
+        Check.due("the place is the length", 400, x.fault());
+        FoundThings y = new FoundThings();
+        Check.due("400 pieces of numbers", 1, Check.holds(y, "199" + "-1".repeat(196) + "=03;"));
+        Check.due("it holds", 1024, y.worlds());
+        Check.due("many brackets", 2, Check.holds(y, "[u0]" + "or[u0]".repeat(64) + "and u0;"));
+        Check.due("worlds", 512, y.worlds());
+        Check.due("400 blanks", 0, Check.law(y, " ".repeat(400)));
+        Check.due("394 blanks", 1, Check.law(y, " ".repeat(394) + "crown;"));
     }
 
     private static void limits() {

@@ -10,6 +10,7 @@ public final class WhoseTest {
         hanging();
         choosing();
         asking();
+        lastWorlds();
         wrong();
         Check.end();
     }
@@ -143,6 +144,35 @@ public final class WhoseTest {
         Check.due("the first that is open", 1, y.ask(0, 0));
         y.know(9, 0);
         Check.due("none", 0, y.questions(0, 0));
+    }
+
+    /** A law that is another one in the first world alone, or in the last. */
+    private static void lastWorlds() {
+        String any = "u0 or u1 or u2 or u3 or u4 or u5 or u6 or u7 or u8 or u9";
+        String[] texts = {"finder if " + any + ";crown;", "finder if not[" + any.replace("or", "and") + "];crown;"};
+        for (String text : texts) {
+            FoundThings x = new FoundThings();
+            x.find(0, 0, 1, 0, 0);
+            Check.due("law", 0, Check.law(x, text));
+            Check.due("hangs", 1023, x.hangs(0, 0));
+            Check.due("settles", 1023, x.settles(0, 0));
+            Check.due("questions", 10, x.questions(0, 0));
+            Check.due("ask", 0, x.ask(0, 0));
+            Check.due("part", 9765625L, x.part(0, 0, 4));
+            Check.due("may", 17, x.may(0, 0));
+        }
+        FoundThings y = new FoundThings();
+        y.find(0, 0, 1, 0, 0);
+        Check.law(y, texts[0]);
+        Check.holds(y, "not[" + any + "] or u0 and u1 and u2 and u3 and u4 and u5 and u6 and u7 and u8 and u9;");
+        Check.due("the first and the last world", 2, y.worlds());
+        Check.due("hangs", 0, y.hangs(0, 0));
+        Check.due("settles", 1, y.settles(0, 0));
+        Check.due("questions", 1, y.questions(0, 0));
+        Check.due("ask", 0, y.ask(0, 0));
+        y.know(0, 0);
+        Check.due("only the first is left", 4, y.sure(0, 0));
+        Check.due("hangs", 0, y.hangs(0, 0));
     }
 
     private static void wrong() {
