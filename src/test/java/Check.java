@@ -5,26 +5,49 @@ final class Check {
         void make();
     }
 
+    /** A call with one number that may be out of its bounds. */
+    interface Told {
+        void tell(int number);
+    }
+
     static final Class<? extends RuntimeException> INDEX = IndexOutOfBoundsException.class;
     static final Class<? extends RuntimeException> ARGUMENT = IllegalArgumentException.class;
     static final Class<? extends RuntimeException> STATE = IllegalStateException.class;
     static final Class<? extends RuntimeException> ELEMENT = java.util.NoSuchElementException.class;
 
+    private static String about = "";
     private static int calls = 0;
     private static int wrong = 0;
 
     private Check() {
     }
 
+    /** Names the promise, and the sentence of it, that the answers from here on belong to. */
+    static void promise(int number, String sentence) {
+        about = "promise " + number + " (" + sentence + "): ";
+    }
+
     static void due(String what, long want, long got) {
         calls++;
         if (got != want) {
             wrong++;
-            System.out.println(what + " answered " + got + ", due is " + want);
+            System.out.println(about + what + " answered " + got + ", due is " + want);
+        }
+    }
+
+    /** Answers that are due one after the other. */
+    static void dueAll(String what, int[] want, int... got) {
+        due(what + ", how many", want.length, got.length);
+        for (int i = 0; i < want.length && i < got.length; i++) {
+            due(what + " " + i, want[i], got[i]);
         }
     }
 
     static void fails(String what, Class<? extends RuntimeException> want, Call call) {
+        thrown(what, want.getName(), call);
+    }
+
+    private static void thrown(String what, String want, Call call) {
         calls++;
         String got = "nothing";
         try {
@@ -32,9 +55,23 @@ final class Check {
         } catch (RuntimeException e) {
             got = e.getClass().getName();
         }
-        if (!got.equals(want.getName())) {
+        if (!got.equals(want)) {
             wrong++;
-            System.out.println(what + " threw " + got + ", due is " + want.getName());
+            System.out.println(about + what + " threw " + got + ", due is " + want);
+        }
+    }
+
+    /** Both ends of what is taken, and the first numbers beyond them, with the farthest ones. */
+    static void bounds(String what, int least, int most, Class<? extends RuntimeException> refused, Told call) {
+        thrown(what + " " + least, "nothing", () -> call.tell(least));
+        thrown(what + " " + most, "nothing", () -> call.tell(most));
+        refuses(what, least, most, refused, call);
+    }
+
+    /** The first numbers that are refused on both sides, and the farthest ones. */
+    static void refuses(String what, int least, int most, Class<? extends RuntimeException> refused, Told call) {
+        for (int number : new int[] {least - 1, most + 1, Integer.MIN_VALUE, Integer.MAX_VALUE}) {
+            fails(what + " " + number, refused, () -> call.tell(number));
         }
     }
 
@@ -59,6 +96,13 @@ final class Check {
     static int law(FoundThings x, String text) {
         feed(x, text);
         return x.law(text.length());
+    }
+
+    static FoundThings laws(FoundThings x, String... texts) {
+        for (String text : texts) {
+            law(x, text);
+        }
+        return x;
     }
 
     static int holds(FoundThings x, String text) {

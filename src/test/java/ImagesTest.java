@@ -100,12 +100,8 @@ public final class ImagesTest {
         Check.law(x, "owner;");
         x.image();
         Check.law(x, "crown;");
-        Check.due("a fault", -9, Check.law(x, "  x"));
-        x.feed(1, 2, 3, 4, 5);
         x.restore();
         Check.due("laws stay", 2, x.count(0));
-        Check.due("the tape stays", 20, x.count(9));
-        Check.due("the fault stays", 2, x.fault());
     }
 
     private static void counts() {

@@ -95,7 +95,6 @@ public final class TextsTest {
         lawFault("finder if u1 if u2;", 1, 13);
         lawFault("finder if;", 1, 9);
         lawFault("finder if u;", 1, 10);
-        lawFault("finder if u", 1, 10);
         lawFault("finder if u 1;", 1, 10);
         lawFault("finder if u12;", 1, 10);
         lawFault("finder if u1a;", 1, 10);
