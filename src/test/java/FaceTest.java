@@ -1,9 +1,16 @@
+import java.io.IOException;
 import java.lang.reflect.Constructor;
 import java.lang.reflect.Field;
 import java.lang.reflect.Method;
 import java.lang.reflect.Modifier;
+import java.nio.file.Files;
+import java.nio.file.Path;
+import java.util.ArrayList;
 import java.util.Arrays;
+import java.util.List;
 import java.util.TreeSet;
+import java.util.regex.Matcher;
+import java.util.regex.Pattern;
 
 /** The public face is the document's, and nothing else. */
 public final class FaceTest {
@@ -22,7 +29,7 @@ public final class FaceTest {
     private FaceTest() {
     }
 
-    public static void main(String[] args) {
+    public static void main(String[] args) throws IOException {
         TreeSet<String> face = new TreeSet<>(Arrays.asList(FACE));
         TreeSet<String> publicNames = new TreeSet<>();
         for (Method method : FoundThings.class.getDeclaredMethods()) {
@@ -40,7 +47,36 @@ public final class FaceTest {
             }
         }
         constructorsAndFields();
+        faceOfTheDocument();
         Check.end();
+    }
+
+    /** Each method's line in the document, with the names of its parameters left out, is what reflection tells. */
+    private static void faceOfTheDocument() throws IOException {
+        TreeSet<String> mine = new TreeSet<>();
+        for (Method method : FoundThings.class.getDeclaredMethods()) {
+            if (Modifier.isPublic(method.getModifiers())) {
+                mine.add(describe(method) + thrown(method));
+            }
+        }
+        Matcher line = Pattern.compile("^    public (\\w+ \\w+)\\(([^)]*)\\)( throws [^;]*)?;$", Pattern.MULTILINE)
+            .matcher(Files.readString(Path.of("../shared/DOC.md")));
+        int lines = 0;
+        while (line.find()) {
+            String parameters = line.group(2).replaceAll(" \\w+(,|$)", "$1").replace(" ", "");
+            String head = line.group(1) + "(" + parameters + ")" + (line.group(3) == null ? "" : line.group(3));
+            Check.due("the document's " + head, 1, mine.contains(head) ? 1 : 0);
+            lines++;
+        }
+        Check.due("methods in the document", mine.size(), lines);
+    }
+
+    private static String thrown(Method method) {
+        List<String> names = new ArrayList<>();
+        for (Class<?> type : method.getExceptionTypes()) {
+            names.add(type.getSimpleName());
+        }
+        return names.isEmpty() ? "" : " throws " + String.join(", ", names);
     }
 
     private static String describe(Method method) {

@@ -192,7 +192,10 @@ public final class ImageEdgesTest {
         Check.due("the first hold", 1, x.hold(0, 0, 0, 999));
         Check.due("by which it is found", 1, x.has(0));
         Check.due("the first claim", 0, x.claim(0, 0, 1));
-        Check.due("nothing lost", 0, x.loss(0, 0));
+        x.person(0, 0);
+        x.away(0, true);
+        Check.due("nothing lost by what was passed on before", 0, x.loss(0, 1));
+        Check.due("nor won", 0, x.loss(0, 0));
     }
 
     /** All that may become another one behind an image, with three images of the same. */
@@ -216,8 +219,11 @@ public final class ImageEdgesTest {
                 x.name(0, 3), x.name(0, 4), x.name(0, 5), x.name(0, 6), x.name(0, 7), x.name(0, 8), x.name(0, 9));
             Check.dueAll("of the find", new int[] {2, 4, 8, 43, 0}, x.finders(0), x.has(0), x.gone(0), x.left(0, 1), x.cry(0));
             Check.dueAll("losses", new int[] {0, -10, 10}, x.loss(0, 0), x.loss(0, 1), x.loss(0, 2));
-            Check.dueAll("what is told as it was", new int[] {1, 9, 1, 1, 1},
-                x.know(1, 1), x.weigh(3, 9), x.passes(1, 0, 1), x.ground(0, true, 1), x.away(1, true) ? 1 : 0);
+            Check.dueAll("what is told as it was", new int[] {1, 9, 1}, x.know(1, 1), x.weigh(3, 9), x.ground(0, true, 1));
+            for (int person = 0; person < 3; person++) {
+                Check.due("passes of " + person, person + 1, x.passes(person, 0, person + 1));
+                Check.due("away " + person, person == 1 ? 1 : 0, x.away(person, person == 1) ? 1 : 0);
+            }
         }
         Check.due("holds", 2, x.hold(0, 0, 0, 0));
     }
@@ -225,7 +231,9 @@ public final class ImageEdgesTest {
     private static void tellFirst(FoundThings x) {
         x.know(1, 1);
         x.weigh(3, 9);
-        x.passes(1, 0, 1);
+        for (int person = 0; person < 3; person++) {
+            x.passes(person, 0, person + 1);
+        }
         x.ground(0, true, 1);
         x.days(1);
         x.cry(0);
@@ -238,16 +246,18 @@ public final class ImageEdgesTest {
     private static void tellOther(FoundThings x) {
         x.know(1, 2);
         x.weigh(3, 2);
-        x.passes(1, 0, 50);
+        for (int person = 0; person < 3; person++) {
+            x.passes(person, 0, 50);
+            x.away(person, person != 1);
+        }
         x.ground(0, false, -1);
         x.days(3);
         x.cry(0);
         x.hold(0, 2, 2, 0);
         x.claim(0, 1, 2);
         x.pass(0, 2, 0, 500);
-        x.away(1, false);
-        x.away(2, true);
         x.person(1, 4095);
+        x.passes(3, 0, 99);
     }
 
     private static void conditionsAreKept() {

@@ -17,6 +17,7 @@ public final class WhoseEdgesTest {
         firstRule();
         namesOfTheFind();
         comparisons();
+        deepest();
         anyTenBits();
         sure();
         may();
@@ -139,6 +140,50 @@ public final class WhoseEdgesTest {
         for (String c : not) {
             Check.due(c, 1, told("crown if " + c + ";").whose(0, 0, 0, 1));
         }
+    }
+
+    /** Six open ones, each with an or and an and that wait for what is inside, and sums that wait as well. */
+    private static void deepest() {
+        Check.promise(19, "six open at one time, each side of which is worked");
+        String text = "u0 or u1 and[u2 or u3 and[u4 or u5 and[u6 or u7 and[u8 or u9 and[not u0 or not u1 and["
+            + "u5 or u7 and u9]]]]]]";
+        FoundThings x = new FoundThings();
+        long all = 0;
+        for (int unknown = 0; unknown < 10; unknown++) {
+            x.weigh(unknown, unknown % 9 + 1);
+        }
+        Check.due("holds", 1, Check.holds(x, text + ";"));
+        int worlds = 0;
+        for (int world = 0; world < 1024; world++) {
+            if (deep(world)) {
+                worlds++;
+                all += weight(world);
+            }
+        }
+        Check.due("worlds", worlds, x.worlds());
+        Check.due("weights of all of them", all, x.all());
+        Check.due("rounds", 2, Check.holds(x, "9-(8-(7-(6-(5-(4-(3-2))))))=9-(8-(7-(6-(5-(4-(3-2))))))+5-5 and not 1=2;"));
+        Check.due("worlds as before", worlds, x.worlds());
+        Check.due("rounds", 3, Check.holds(x, "9-(8-(7-(6-(5-(4-(3-2))))))=9-8+7-6+5-4+3-2;"));
+        Check.due("worlds as before", worlds, x.worlds());
+    }
+
+    private static boolean deep(int world) {
+        boolean[] u = new boolean[10];
+        for (int unknown = 0; unknown < 10; unknown++) {
+            u[unknown] = (world >> unknown & 1) == 1;
+        }
+        boolean inside = u[5] || u[7] && u[9];
+        return u[0] || u[1] && (u[2] || u[3] && (u[4] || u[5] && (u[6] || u[7] && (u[8] || u[9] && (!u[0] || !u[1] && inside)))));
+    }
+
+    private static long weight(int world) {
+        long weight = 1;
+        for (int unknown = 0; unknown < 10; unknown++) {
+            int isTrue = unknown % 9 + 1;
+            weight *= (world >> unknown & 1) == 1 ? isTrue : 10 - isTrue;
+        }
+        return weight;
     }
 
     private static void anyTenBits() {
