@@ -10,6 +10,7 @@ public final class BesideEdgesTest {
         leastBounds();
         worth();
         wayAndPlace();
+        bothLawsLook();
         withoutAll();
         noneToPartAt();
         withoutRoom();
@@ -119,6 +120,22 @@ public final class BesideEdgesTest {
         least("worth=2 and place=3 or worth=2 and way=1", 2, 0, 3);
         least("worth+way+place=68", 60, 5, 3);
         least("worth+way+place=69", -1, -1, -1);
+    }
+
+    /** What both laws look at is tried as well as what one of them looks at alone. */
+    private static void bothLawsLook() {
+        Check.promise(41, "by WORTH, then WAY, then PLACE: whichever of the two LAWS looks at them");
+        String[][] pairs = {{"worth<40", "worth<41"}, {"way<3", "way<4"}, {"place<2", "place<3"}, {"walled=1", "walled=0"},
+            {"worth=60 and place=3", "worth=60 and way=5"}, {"worth>9 and way=5", "worth>9 and place=3"},
+            {"worth<60 or way<5 or place<3", "worth<61"}, {"way=2 and place=1", "place=1 and way=2"},
+            {"worth+way=64", "worth+place=63"}, {"place=2 and walled=1", "place=3 and walled=1"}};
+        int[][] due = {{40, 0, 0}, {1, 3, 0}, {1, 0, 2}, {1, 0, 0}, {60, 0, 3}, {10, 0, 3}, {60, 5, 3}, {-1, -1, -1},
+            {59, 5, 0}, {1, 0, 3}};
+        for (int i = 0; i < pairs.length; i++) {
+            FoundThings x = told("crown if " + pairs[i][0] + ";", "crown if " + pairs[i][1] + ";");
+            x.ground(3, true, -1);
+            least(x, pairs[i][0] + " beside " + pairs[i][1], due[i]);
+        }
     }
 
     private static void withoutAll() {

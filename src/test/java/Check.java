@@ -68,9 +68,9 @@ final class Check {
         refuses(what, least, most, refused, call);
     }
 
-    /** The first numbers that are refused on both sides, and the farthest ones. */
+    /** The first two numbers that are refused on both sides (a bound may be taken for one number), and the farthest. */
     static void refuses(String what, int least, int most, Class<? extends RuntimeException> refused, Told call) {
-        for (int number : new int[] {least - 1, most + 1, Integer.MIN_VALUE, Integer.MAX_VALUE}) {
+        for (int number : new int[] {least - 1, least - 2, most + 1, most + 2, Integer.MIN_VALUE, Integer.MAX_VALUE}) {
             fails(what + " " + number, refused, () -> call.tell(number));
         }
     }

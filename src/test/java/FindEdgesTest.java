@@ -251,8 +251,11 @@ public final class FindEdgesTest {
         Check.due("six at once", 63, x.finders(6));
         x.hold(5, 1, 2, 5);
         x.hold(5, 2, 1, 0);
+        Check.due("lesser HOW behind", 2, x.finders(5));
+        x.hold(5, 3, 0, 0);
+        Check.due("and the least", 2, x.finders(5));
         x.hold(5, 1, 2, 5);
-        Check.due("one twice, lesser HOW behind", 2, x.finders(5));
+        Check.due("one twice, lesser HOW between", 2, x.finders(5));
         x.hold(5, 9, 2, 0);
         Check.due("the TIME 0", 512, x.finders(5));
         Check.due("other finds have none", 0, x.finders(4));

@@ -30,6 +30,8 @@ public final class WhoseEdgesTest {
         answersThatDoNotCome();
         firstQuestion();
         withoutWorlds();
+        whateverWasAsked();
+        oftenAsked();
         Check.end();
     }
 
@@ -399,5 +401,62 @@ public final class WhoseEdgesTest {
         Check.due("questions", 0, x.questions(0, 0));
         Check.promise(26, "none must be asked without WORLDS");
         Check.due("ask", -1, x.ask(0, 0));
+    }
+
+    /** Laws that say another WHO in each world, asked in turn: no answer is one of the law that was asked before. */
+    private static void whateverWasAsked() {
+        FoundThings x = told("crown if u0;finder;", "ground;", "halves if u1 and u2;owner;");
+        int[] hangs = {1, 0, 6};
+        int[] questions = {1, 0, 2};
+        int[] ask = {0, -1, 1};
+        int[] order = {0, 1, 2, 1, 0, 2, 0, 1};
+        for (int law : order) {
+            Check.promise(25, "by a LAW, whichever was asked before");
+            Check.due("questions by " + law, questions[law], x.questions(0, law));
+        }
+        for (int law : order) {
+            Check.promise(26, "by a LAW, whichever was asked before");
+            Check.due("ask by " + law, ask[law], x.ask(0, law));
+            Check.promise(24, "by a LAW, whichever was asked before");
+            Check.due("settles by " + law, hangs[law], x.settles(0, law));
+        }
+        for (int law : order) {
+            Check.promise(23, "by a LAW, whichever was asked before");
+            Check.due("hangs by " + law, hangs[law], x.hangs(0, law));
+        }
+        Check.promise(25, "in WORLDS of today, whichever there were before");
+        x.know(0, 1);
+        Check.due("told", 0, x.questions(0, 0));
+        x.know(0, 2);
+        Check.due("open again", 1, x.questions(0, 0));
+        x.image();
+        Check.holds(x, "u0;");
+        Check.due("by a condition", 0, x.questions(0, 0));
+        x.restore();
+        Check.due("which is gone", 1, x.questions(0, 0));
+        Check.promise(25, "of a FIND, whichever was asked before");
+        FoundThings y = told("crown if worth=2 and u0;finder if worth=2;ground;");
+        y.find(0, 0, 2, 0, 0);
+        for (int i = 0; i < 4; i++) {
+            Check.due("find " + i % 2, i % 2, y.questions(i % 2, 0));
+        }
+    }
+
+    private static void oftenAsked() {
+        Check.promise(19, "without such a RULE: owner, however often it is asked");
+        FoundThings x = told("", "finder if u0;", "crown;");
+        for (int i = 0; i < 40; i++) {
+            Check.due("no rules", 1, x.sure(0, 0));
+            Check.due("beside itself", 0, x.beside(0, 0));
+        }
+        for (int i = 0; i < 40; i++) {
+            Check.due("no rules", 1, x.whose(0, 0, i, 1));
+            Check.due("none holds", 1, x.whose(0, 1, 0, 1));
+        }
+        Check.due("one that has rules", 4, x.sure(0, 2));
+        Check.due("beside one without", 1, x.beside(0, 2));
+        Check.due("a condition", 1, Check.holds(x, "u0;"));
+        Check.due("and one that has a rule", 0, x.sure(0, 1));
+        Check.due("no rules still", 1, x.sure(0, 0));
     }
 }
