@@ -6,6 +6,8 @@ public final class BesideEdgesTest {
     public static void main(String[] args) {
         besideBounds();
         howMany();
+        claimsOfEach();
+        findsThatAreGone();
         inSomeWorld();
         leastBounds();
         worth();
@@ -45,11 +47,58 @@ public final class BesideEdgesTest {
             Check.due("WHO is the same, not RULE and CRY", 0, x.beside(0, 2));
             Check.due("a law beside itself", 0, x.beside(1, 1));
         }
-        FoundThings y = told("crown;", "");
-        for (int find = 1; find <= 8; find++) {
-            y.find(0, 0, find, 0, 0);
+        FoundThings y = told("crown;", "", "crown if worth<9 and claims<9;");
+        for (int find = 0; find < 8; find++) {
+            Check.due("at all that there are", find, y.beside(0, 1));
+            Check.due("and so of another", find, y.beside(1, 2));
+            y.find(0, 0, find + 1, 0, 0);
         }
         Check.due("at all eight", 8, y.beside(0, 1));
+    }
+
+    /** Each find by its own names: the laws part at those that have claims alone. */
+    private static void claimsOfEach() {
+        Check.promise(40, "at how many FINDS two LAWS PART: each by its own NAMES");
+        FoundThings x = told("", "crown if claims>0;", "crown if claims=1;");
+        x.person(0, 1);
+        for (int find = 0; find < 8; find++) {
+            x.find(0, 0, 1, 1, 0);
+        }
+        int[][] due = {{1, 1, 0}, {1, 0, 1}, {2, 1, 1}, {3, 2, 1}, {3, 1, 2}};
+        int[] claimed = {7, 7, 2, 5, 5};
+        for (int claim = 0; claim < claimed.length; claim++) {
+            x.claim(claimed[claim], 0, 1);
+            Check.dueAll("with " + (claim + 1) + " claims", due[claim], x.beside(0, 1), x.beside(0, 2), x.beside(1, 2));
+            Check.dueAll("the other way round", due[claim], x.beside(1, 0), x.beside(2, 0), x.beside(2, 1));
+        }
+        x.image();
+        x.claim(0, 0, 1);
+        Check.due("one more", 4, x.beside(0, 1));
+        x.restore();
+        Check.due("which is gone", 3, x.beside(0, 1));
+    }
+
+    private static void findsThatAreGone() {
+        Check.promise(40, "at how many FINDS: not at those that a restore took");
+        FoundThings x = told("crown;", "");
+        x.find(0, 0, 1, 0, 0);
+        x.image();
+        for (int find = 1; find < 8; find++) {
+            x.find(0, 0, 1, 0, 0);
+        }
+        Check.due("eight", 8, x.beside(0, 1));
+        x.restore();
+        Check.due("one", 1, x.beside(0, 1));
+        FoundThings y = told("", "crown if worth=9 or worth<1;");
+        for (int find = 0; find < 3; find++) {
+            y.find(0, 0, 1, 0, 0);
+            Check.due("not at what is no find yet", 0, y.beside(0, 1));
+        }
+        y.image();
+        y.find(0, 0, 9, 0, 0);
+        Check.due("at the last", 1, y.beside(0, 1));
+        y.restore();
+        Check.due("which is gone", 0, y.beside(0, 1));
     }
 
     private static void inSomeWorld() {

@@ -14,6 +14,7 @@ public final class PassingEdgesTest {
         losses();
         greatestLoss();
         bothGone();
+        lossByTheLastFind();
         Check.end();
     }
 
@@ -232,5 +233,29 @@ public final class PassingEdgesTest {
         x.away(0, false);
         Check.due("one is gone", 70, x.loss(0, 0));
         Check.due("the other one", -70, x.loss(0, 1));
+    }
+
+    private static void lossByTheLastFind() {
+        Check.promise(39, "LOSS of a PERSON by a FIND, whichever number it has");
+        FoundThings x = told(3, 8);
+        x.away(0, true);
+        for (int find = 7; find >= 0; find--) {
+            x.hold(find, 0, 0, 0);
+            x.pass(find, 0, 1 + find % 2, 10 + find);
+            for (int other = 0; other < 8; other++) {
+                int price = other >= find ? 10 + other : 0;
+                Check.due("of the one who is gone, by " + other, -price, x.loss(other, 0));
+                Check.due("of the one who paid, by " + other, price, x.loss(other, 1 + other % 2));
+                Check.due("of the other, by " + other, 0, x.loss(other, 2 - other % 2));
+            }
+        }
+        FoundThings y = told(2, 1);
+        y.away(0, true);
+        y.image();
+        y.hold(0, 0, 0, 0);
+        y.pass(0, 0, 1, 5);
+        Check.due("lost", 5, y.loss(0, 1));
+        y.restore();
+        Check.due("not passed on", 0, y.loss(0, 1));
     }
 }

@@ -3,6 +3,11 @@ public final class WhoseEdgesTest {
     private static final String ANY = "u0 or u1 or u2 or u3 or u4 or u5 or u6 or u7 or u8 or u9";
     private static final String ALL = ANY.replace("or", "and");
 
+    /** Laws that say the same in some worlds and another WHO in others, and one that says another in each. */
+    private static final String[] LAWS = {"", "finder;", "crown;", "crown if u0;finder;", "crown if not u0;finder;",
+        "halves if u1 and u2;owner;", "ground if u0 and u2;finder;", "crown if u0 and u2;", "crown if not u2;halves if u9;ground;",
+        "finder if u0;crown;", "owner if u1;crown;", "ground if u0 and u1;crown;", "halves if u2;crown;", "crown if " + ALL + ";finder;"};
+
     /** A call with a FIND and a LAW. */
     private interface Asked {
         long ask(FoundThings x, int find, int law);
@@ -30,7 +35,9 @@ public final class WhoseEdgesTest {
         answersThatDoNotCome();
         firstQuestion();
         withoutWorlds();
-        whateverWasAsked();
+        otherLawsBefore();
+        otherWorldsBefore();
+        otherFindsBefore();
         oftenAsked();
         Check.end();
     }
@@ -333,6 +340,20 @@ public final class WhoseEdgesTest {
         Check.due("two worlds, the first and the last", 2, ends.worlds());
         Check.due("any settles, so the least", 1, ends.settles(0, 0));
         Check.due("it hangs on none", 0, ends.hangs(0, 0));
+        settlesByEachAnswer();
+    }
+
+    /** Two unknowns that go together, of which one is needed, if a third one is FALSE (or TRUE) alone. */
+    private static void settlesByEachAnswer() {
+        Check.promise(24, "WHO is the same in any two WORLDS alike in these: by each answer");
+        for (int third = 2; third < 10; third++) {
+            FoundThings x = told("crown if u0 and not u" + third + ";", "crown if u0 and u" + third + ";");
+            Check.holds(x, "[u0 and u1]or[not u0 and not u1];");
+            Check.due("if it is FALSE", 1 << third, x.hangs(0, 0));
+            Check.due("if it is FALSE", 1 | 1 << third, x.settles(0, 0));
+            Check.due("if it is TRUE", 1 << third, x.hangs(0, 1));
+            Check.due("if it is TRUE", 1 | 1 << third, x.settles(0, 1));
+        }
     }
 
     private static void questions() {
@@ -403,42 +424,58 @@ public final class WhoseEdgesTest {
         Check.due("ask", -1, x.ask(0, 0));
     }
 
-    /** Laws that say another WHO in each world, asked in turn: no answer is one of the law that was asked before. */
-    private static void whateverWasAsked() {
-        FoundThings x = told("crown if u0;finder;", "ground;", "halves if u1 and u2;owner;");
-        int[] hangs = {1, 0, 6};
+    private static int[] riddle(FoundThings x, int law) {
+        return new int[] {x.questions(0, law), x.ask(0, law), x.settles(0, law), x.hangs(0, law)};
+    }
+
+    /** Each behind each other one: no answer is one of the law that was asked for before. */
+    private static void otherLawsBefore() {
+        Check.promise(25, "by a LAW, whichever was asked before (so promises 23, 24, 26)");
+        for (String before : LAWS) {
+            for (String law : LAWS) {
+                FoundThings x = told(before, law);
+                riddle(x, 0);
+                Check.dueAll(law + " behind " + before, riddle(told(law), 0), riddle(x, 1));
+                Check.dueAll("and again " + before, riddle(told(before), 0), riddle(x, 0));
+                FoundThings once = told(before, law);
+                once.questions(0, 0);
+                Check.dueAll(law + " behind questions by " + before, riddle(told(law), 0), riddle(once, 1));
+            }
+        }
+        FoundThings y = told("crown if u0;finder;", "ground;", "halves if u1 and u2;owner;");
         int[] questions = {1, 0, 2};
-        int[] ask = {0, -1, 1};
-        int[] order = {0, 1, 2, 1, 0, 2, 0, 1};
-        for (int law : order) {
-            Check.promise(25, "by a LAW, whichever was asked before");
-            Check.due("questions by " + law, questions[law], x.questions(0, law));
+        for (int law : new int[] {0, 1, 2, 1, 0, 2}) {
+            Check.due("questions by " + law, questions[law], y.questions(0, law));
         }
-        for (int law : order) {
-            Check.promise(26, "by a LAW, whichever was asked before");
-            Check.due("ask by " + law, ask[law], x.ask(0, law));
-            Check.promise(24, "by a LAW, whichever was asked before");
-            Check.due("settles by " + law, hangs[law], x.settles(0, law));
+    }
+
+    private static void otherWorldsBefore() {
+        Check.promise(25, "in the WORLDS that there are, whichever there were before");
+        String[] conditions = {"1=1;", "1=2;", "u0;", "not u0;", "u1 or u2;", "not[" + ANY + "];", ALL + ";"};
+        for (String before : conditions) {
+            for (String law : LAWS) {
+                FoundThings x = told(law);
+                x.image();
+                Check.holds(x, before);
+                riddle(x, 0);
+                x.restore();
+                Check.dueAll(law + ", " + before + " holds no more", riddle(told(law), 0), riddle(x, 0));
+            }
         }
-        for (int law : order) {
-            Check.promise(23, "by a LAW, whichever was asked before");
-            Check.due("hangs by " + law, hangs[law], x.hangs(0, law));
+        FoundThings y = told("crown if u0;finder;");
+        int[] told = {2, 0, 2, 1, 2};
+        for (int is : told) {
+            y.know(0, is);
+            Check.due("told " + is, is == 2 ? 1 : 0, y.questions(0, 0));
         }
-        Check.promise(25, "in WORLDS of today, whichever there were before");
-        x.know(0, 1);
-        Check.due("told", 0, x.questions(0, 0));
-        x.know(0, 2);
-        Check.due("open again", 1, x.questions(0, 0));
-        x.image();
-        Check.holds(x, "u0;");
-        Check.due("by a condition", 0, x.questions(0, 0));
-        x.restore();
-        Check.due("which is gone", 1, x.questions(0, 0));
-        Check.promise(25, "of a FIND, whichever was asked before");
-        FoundThings y = told("crown if worth=2 and u0;finder if worth=2;ground;");
-        y.find(0, 0, 2, 0, 0);
+    }
+
+    private static void otherFindsBefore() {
+        Check.promise(25, "of a FIND, whichever was asked for before");
+        FoundThings x = told("crown if worth=2 and u0;finder if worth=2;ground;");
+        x.find(0, 0, 2, 0, 0);
         for (int i = 0; i < 4; i++) {
-            Check.due("find " + i % 2, i % 2, y.questions(i % 2, 0));
+            Check.due("find " + i % 2, i % 2, x.questions(i % 2, 0));
         }
     }
 
